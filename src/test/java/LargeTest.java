@@ -130,7 +130,16 @@ public final class LargeTest {
             }
         }
         hold(x.unsafe(0) == unsafe, "unsafe");
+        cost(kept);
         hold(x.give(0) == (unsafe == 0 ? 0 : -1), "give");
+    }
+
+    private void cost(boolean[][] kept) {
+        long price = 0;
+        for (int i = 0; i < rows; i++)
+            for (int j = 0; j < columns; j++)
+                if (kept[i][j] && x.secret(0, i, j) == 0) price += costRule == 0 ? 1 : number[i][j] + 1;
+        hold(x.cost(0) == price, "cost");
     }
 
     private int downRule = -1;

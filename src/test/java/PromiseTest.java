@@ -309,6 +309,11 @@ public final class PromiseTest {
         no("tear 1", x.tear(0, 0, 1), 3);
         no("tear -1", x.tear(0, 0, -1), 3);
         no("cell in it", x.cell(0, 0, 0, COUNT, 1), 3);
+        fresh(12, 12);
+        for (int k = 0; k < 144; k++) yes("cell", x.cell(0, k / 12, k % 12, COUNT, 500));
+        yes("tear", x.tear(0, 4, 6));
+        yes("tear", x.tear(0, 11, 0));
+        for (int i = 0; i < 12; i++) due("sound", x.sound(0, i), i == 4 || i == 11 ? 0 : 1, 0);
     }
 
     private static void block() {
@@ -998,6 +1003,10 @@ public final class PromiseTest {
         yes("cell", x.cell(2, 11, 10, COUNT, 499));
         due("give", x.give(2), 5, 0);
         due("the last row", x.agree(4, 5), 1110, 0);
+        yes("cell", x.cell(1, 0, 0, COUNT, 0));
+        due("give", x.give(1), 6, 0);
+        due("0 is a number too", x.agree(0, 6), 0, 0);
+        due("0 is a number too", x.agree(6, 0), 0, 0);
     }
 
     public static void main(String[] args) {
