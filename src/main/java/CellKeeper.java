@@ -26,6 +26,10 @@ public final class CellKeeper {
     private static final int MARK = 5;
     private static final int TOLD_MARK = 0;
 
+    /** What was told of a cell, as bits. */
+    private static final int SECRET_BY_HAND = 1;
+    private static final int TO_BE_KEPT = 2;
+
     private static final int THRESHOLD = 0;
     private static final int WANTED = 1;
     private static final int PERCENT = 2;
@@ -201,7 +205,7 @@ public final class CellKeeper {
         if (!settled(amountStatus(table, row, column))) {
             return NONE;
         }
-        return tables[table].givers[spotOf(row, column)];
+        return tables[table].giversAt(spotOf(row, column));
     }
 
     public int part(int table, int row, int column, int k) {
@@ -209,7 +213,7 @@ public final class CellKeeper {
             return NONE;
         }
         int spot = spotOf(row, column);
-        if (k < 0 || k >= tables[table].givers[spot]) {
+        if (k < 0 || k >= tables[table].giversAt(spot)) {
             return refused(BAD_NUMBER);
         }
         return tables[table].parts[spot * GIVERS + k];
@@ -219,7 +223,7 @@ public final class CellKeeper {
         if (!settled(guardableStatus(table, row, column))) {
             return false;
         }
-        tables[table].byHand[spotOf(row, column)] = on;
+        tables[table].tell(spotOf(row, column), SECRET_BY_HAND, on);
         return true;
     }
 
@@ -227,7 +231,7 @@ public final class CellKeeper {
         if (!settled(guardableStatus(table, row, column))) {
             return false;
         }
-        tables[table].toldKept[spotOf(row, column)] = on;
+        tables[table].tell(spotOf(row, column), TO_BE_KEPT, on);
         return true;
     }
 
@@ -529,9 +533,8 @@ public final class CellKeeper {
         final int[] places = new int[SIDE];
         final int[] kind = new int[PLACES];
         final int[] number = new int[PLACES];
-        final boolean[] byHand = new boolean[PLACES];
-        final boolean[] toldKept = new boolean[PLACES];
-        final int[] givers = new int[PLACES];
+        final int[] told = new int[PLACES];
+        /** Of each place the parts in the order they were told, 0 behind the last one. */
         final int[] parts = new int[PLACES * GIVERS];
         final int[] rules = new int[RULES_AT_FIRST.length];
         final int[] blockFirst = new int[BLOCKS];
@@ -554,17 +557,34 @@ public final class CellKeeper {
         void put(int spot, int newKind, int newNumber) {
             kind[spot] = newKind;
             number[spot] = newNumber;
-            givers[spot] = 0;
-            byHand[spot] = false;
-            toldKept[spot] = false;
+            told[spot] = 0;
+            for (int k = 0; k < GIVERS; k++) {
+                parts[spot * GIVERS + k] = 0;
+            }
+        }
+
+        void tell(int spot, int what, boolean on) {
+            told[spot] = on ? told[spot] | what : told[spot] & ~what;
+        }
+
+        boolean wasTold(int spot, int what) {
+            return (told[spot] & what) != 0;
+        }
+
+        int giversAt(int spot) {
+            int count = 0;
+            for (int k = 0; k < GIVERS; k++) {
+                count += parts[spot * GIVERS + k] > 0 ? 1 : 0;
+            }
+            return count;
         }
 
         boolean addGiver(int spot, int newPart) {
-            if (givers[spot] >= GIVERS) {
+            int had = giversAt(spot);
+            if (had >= GIVERS) {
                 return false;
             }
-            parts[spot * GIVERS + givers[spot]] = newPart;
-            givers[spot]++;
+            parts[spot * GIVERS + had] = newPart;
             number[spot] += newPart;
             return true;
         }
@@ -642,13 +662,13 @@ public final class CellKeeper {
 
         /** Of a cell of a sound row. */
         int reasons(int spot) {
-            int found = byHand[spot] ? 8 : 0;
+            int found = wasTold(spot, SECRET_BY_HAND) ? 8 : 0;
             int has = number[spot];
             if (kind[spot] == COUNT && has >= 1 && has <= rules[THRESHOLD]) {
                 found += 1;
             }
             if (kind[spot] == AMOUNT && has > 0) {
-                if (givers[spot] < rules[WANTED]) {
+                if (giversAt(spot) < rules[WANTED]) {
                     found += 2;
                 }
                 if (100 * leftByTwo(spot) < rules[PERCENT] * has) {
@@ -661,7 +681,7 @@ public final class CellKeeper {
         private int leftByTwo(int spot) {
             int first = 0;
             int second = 0;
-            for (int k = 0; k < givers[spot]; k++) {
+            for (int k = 0; k < GIVERS; k++) {
                 int part = parts[spot * GIVERS + k];
                 if (part > first) {
                     second = first;
@@ -674,7 +694,7 @@ public final class CellKeeper {
         }
 
         boolean isKept(int spot) {
-            return toldKept[spot] || reasons(spot) != 0;
+            return wasTold(spot, TO_BE_KEPT) || reasons(spot) != 0;
         }
 
         int priceOf(int spot) {
@@ -687,7 +707,7 @@ public final class CellKeeper {
                 boolean counts = isSound(row);
                 for (int column = 0; column < columns && counts; column++) {
                     int spot = spotOf(row, column);
-                    if (toldKept[spot] && reasons(spot) == 0) {
+                    if (wasTold(spot, TO_BE_KEPT) && reasons(spot) == 0) {
                         whole += priceOf(spot);
                     }
                 }
@@ -818,7 +838,7 @@ public final class CellKeeper {
                 number[spot] = table.number[spot];
                 value[spot] = table.number[spot];
                 secret[spot] = table.reasons(spot);
-                kept[spot] = table.toldKept[spot] || secret[spot] != 0;
+                kept[spot] = secret[spot] != 0 || table.wasTold(spot, TO_BE_KEPT);
                 bound(spot, whole);
             }
         }
@@ -1036,7 +1056,6 @@ public final class CellKeeper {
     /** Finds what is to be kept beside the secrets. */
     private static final class Guard {
         private final boolean[] planned = new boolean[PLACES];
-        private final boolean[] tried = new boolean[1 << CHOICES];
         private final int[] choice = new int[CHOICES];
         private final int[] choicePrice = new int[CHOICES];
         final int[] prices = new int[1 << CHOICES];
@@ -1077,7 +1096,7 @@ public final class CellKeeper {
         private void tellPlanned(Table table) {
             for (int spot = 0; spot < PLACES; spot++) {
                 if (planned[spot]) {
-                    table.toldKept[spot] = true;
+                    table.tell(spot, TO_BE_KEPT, true);
                 }
             }
         }
@@ -1155,7 +1174,6 @@ public final class CellKeeper {
 
         private void priceSets(int sets) {
             for (int set = 0; set < sets; set++) {
-                tried[set] = false;
                 prices[set] = 0;
                 for (int k = 0; k < choices; k++) {
                     if ((set & bitOf(k)) != 0) {
@@ -1175,24 +1193,32 @@ public final class CellKeeper {
                 return NONE;
             }
             priceSets(sets);
-            for (int turn = 0; turn < sets; turn++) {
-                int set = nextSet(sets);
-                if (set == NONE || guards(reader, set)) {
+            int set = nextSet(sets, NONE);
+            for (int turn = 0; turn < sets && set != NONE; turn++) {
+                if (guards(reader, set)) {
                     return set;
                 }
-                tried[set] = true;
+                set = nextSet(sets, set);
             }
             return NONE;
         }
 
-        private int nextSet(int sets) {
+        /** The set that comes next after one by price, then by its first cell; the first of all after NONE. */
+        private int nextSet(int sets, int last) {
             int found = NONE;
             for (int set = sets - 1; set >= 0; set--) {
-                if (!tried[set] && (found == NONE || prices[set] < prices[found])) {
+                if (isBefore(last, set) && (found == NONE || prices[set] < prices[found])) {
                     found = set;
                 }
             }
             return found;
+        }
+
+        private boolean isBefore(int one, int other) {
+            if (one == NONE || prices[one] != prices[other]) {
+                return one == NONE || prices[one] < prices[other];
+            }
+            return one > other;
         }
 
         private boolean guards(Reader reader, int set) {
@@ -1220,11 +1246,11 @@ public final class CellKeeper {
 
         void tell(Table table, int set) {
             for (int spot = 0; spot < PLACES; spot++) {
-                table.toldKept[spot] = false;
+                table.tell(spot, TO_BE_KEPT, false);
             }
             for (int k = 0; k < choices; k++) {
                 if ((set & bitOf(k)) != 0) {
-                    table.toldKept[choice[k]] = true;
+                    table.tell(choice[k], TO_BE_KEPT, true);
                 }
             }
         }

@@ -7,8 +7,8 @@ import java.util.IdentityHashMap;
 
 /** All calls of one run share one room: what an object makes is counted, and no call may make anything. */
 public final class RoomTest {
-    /** Far more new objects than a run of 512 calls has. */
-    private static final int NEW_ONES = 256;
+    /** The dearest call is the constructor; even a run of 512 of them must fit. */
+    private static final int NEW_ONES = 512;
     private static final int OBJECTS = 600000;
     private static final int ELEMENTS = 7300000;
 
