@@ -1,5 +1,6 @@
 import com.sun.source.tree.*;
 import com.sun.source.util.JavacTask;
+import com.sun.source.util.TreePath;
 import com.sun.source.util.TreePathScanner;
 import com.sun.source.util.Trees;
 import java.io.File;
@@ -16,6 +17,8 @@ import javax.lang.model.element.Element;
 import javax.lang.model.element.ElementKind;
 import javax.lang.model.element.ExecutableElement;
 import javax.lang.model.element.Modifier;
+import javax.lang.model.element.VariableElement;
+import javax.lang.model.type.TypeKind;
 import javax.tools.JavaCompiler;
 import javax.tools.StandardJavaFileManager;
 import javax.tools.ToolProvider;
@@ -126,8 +129,58 @@ public final class FaceTest {
             return super.visitMethodInvocation(tree, none);
         }
 
+        @Override public Void visitVariable(VariableTree tree, Void none) {
+            Element element = trees.getElement(getCurrentPath());
+            hold(element.asType().toString().matches("(int|long|boolean|CellKeeper\\.\\w+)(\\[\\])?"), "a type that may not be" + at(tree));
+            if (element.getModifiers().contains(Modifier.STATIC)) {
+                boolean written = tree.getInitializer() instanceof NewArrayTree array && array.getInitializers() != null;
+                hold(written || element instanceof VariableElement field && field.getConstantValue() != null, "static, but no constant" + at(tree));
+            }
+            return super.visitVariable(tree, none);
+        }
+
+        @Override public Void visitAssignment(AssignmentTree tree, Void none) {
+            noConstant(tree, tree.getVariable());
+            return super.visitAssignment(tree, none);
+        }
+
+        @Override public Void visitCompoundAssignment(CompoundAssignmentTree tree, Void none) {
+            noConstant(tree, tree.getVariable());
+            hold(tree.getKind() != Tree.Kind.DIVIDE_ASSIGNMENT && tree.getKind() != Tree.Kind.REMAINDER_ASSIGNMENT, "a divisor not looked at" + at(tree));
+            return super.visitCompoundAssignment(tree, none);
+        }
+
+        @Override public Void visitUnary(UnaryTree tree, Void none) {
+            if (tree.getKind().toString().matches("(PRE|POST)FIX_.*")) noConstant(tree, tree.getExpression());
+            return super.visitUnary(tree, none);
+        }
+
+        void noConstant(Tree whole, Tree changed) {
+            hold(!changed.toString().matches("[A-Z][A-Z_]+(\\[.*)?"), "a constant is changed" + at(whole));
+        }
+
+        /** A divisor is a number written out, or is compared in the condition about it. */
+        @Override public Void visitBinary(BinaryTree tree, Void none) {
+            boolean divides = tree.getKind() == Tree.Kind.DIVIDE || tree.getKind() == Tree.Kind.REMAINDER;
+            if (divides && !tree.getRightOperand().toString().matches("[1-9]\\d*")) {
+                String divisor = tree.getRightOperand().toString();
+                boolean looked = false;
+                for (Tree about : getCurrentPath())
+                    looked |= about instanceof ConditionalExpressionTree c && c.getCondition().toString().matches(".*\\b" + divisor + " (>|<=) 0\\)?");
+                hold(looked, "a divisor not looked at: " + divisor + at(tree));
+            }
+            return super.visitBinary(tree, none);
+        }
+
+        @Override public Void visitTypeCast(TypeCastTree tree, Void none) {
+            hold(tree.getType().toString().equals("int"), "a cast" + at(tree));
+            return super.visitTypeCast(tree, none);
+        }
+
         @Override public Void visitNewArray(NewArrayTree tree, Void none) {
             hold(method == null, "an array made by a call" + at(tree));
+            for (ExpressionTree length : tree.getDimensions())
+                hold(length.toString().matches("[A-Z_0-9 *+<>()-]+(\\.length)?"), "a length that is no constant" + at(tree));
             return super.visitNewArray(tree, none);
         }
 
@@ -144,6 +197,16 @@ public final class FaceTest {
             return super.visitForLoop(tree, none);
         }
         @Override public Void visitThrow(ThrowTree tree, Void none) { never(tree, "throw"); return null; }
+        @Override public Void visitInstanceOf(InstanceOfTree tree, Void none) { never(tree, "instanceof"); return null; }
+        @Override public Void visitBlock(BlockTree tree, Void none) {
+            hold(!tree.isStatic(), "a static block" + at(tree));
+            hold(getCurrentPath().getParentPath().getLeaf().getKind() != Tree.Kind.CLASS, "a block of a class" + at(tree));
+            return super.visitBlock(tree, none);
+        }
+        @Override public Void visitEnhancedForLoop(EnhancedForLoopTree tree, Void none) {
+            hold(trees.getTypeMirror(TreePath.getPath(unit, tree.getExpression())).getKind() == TypeKind.ARRAY, "a loop over no array" + at(tree));
+            return super.visitEnhancedForLoop(tree, none);
+        }
         @Override public Void visitTry(TryTree tree, Void none) { never(tree, "try"); return null; }
         @Override public Void visitAssert(AssertTree tree, Void none) { never(tree, "assert"); return null; }
         @Override public Void visitSynchronized(SynchronizedTree tree, Void none) { never(tree, "synchronized"); return null; }
@@ -177,6 +240,9 @@ public final class FaceTest {
         Look look = new Look(Trees.instance(task), unit);
         look.scan(unit, null);
         hold(look.face.equals(FACE), "the face is " + look.face);
+        hold(unit.getPackageName() == null, "a package line");
+        hold(unit.getTypeDecls().size() == 1, "more than one class of its own");
+        hold(unit.getSourceFile().getCharContent(true).chars().allMatch(c -> c == '\n' || c >= 32 && c < 127), "a sign beyond 127");
         hold(look.classes <= 12, "too many classes: " + look.classes);
         look.otherNames.retainAll(look.faceNames);
         hold(look.otherNames.isEmpty(), "names of the face borne by others: " + look.otherNames);

@@ -463,8 +463,9 @@ public final class TermsTest extends Bench {
         calm("*5 *9 4", "6 *3 *8", "*7 6 *6");
         spanIs(0, 0, 2, 12);
         says("of a SHARE its THOUSANDTHS: 1000 times its NUMBER by its ROW's sum, rounded down (0 where that sum is 0).");
-        String[] rows = {"s1 999", "s1 1000", "s999 1", "s5 0", "s0 5", "s0 0", "s2 1", "s1 2", "s1000000 s1000000", "s999999 1000000"};
-        int[] want = {1, 0, 999, 1000, 0, 0, 666, 333, 500, 499};
+        String[] rows = {"s1 999", "s1 1000", "s999 1", "s5 0", "s0 5", "s0 0", "s2 1", "s1 2", "s1000000 s1000000", "s999999 1000000",
+            "s0", "s1", "s1 z", "s0 1", "s1000000"};
+        int[] want = {1, 0, 999, 1000, 0, 0, 666, 333, 500, 499, 0, 1000, 1000, 0, 1000};
         for (int k = 0; k < rows.length; k++) {
             calm(rows[k]);
             due(rows[k], x.thousandths(0, 0, 0), want[k], 0);
@@ -495,6 +496,16 @@ public final class TermsTest extends Bench {
         spanIs(0, 0, 2498, 2499);
         calm("*s0 *s0", "*50 *50");
         spanIs(0, 0, 0, 0);
+        // A share of 1 in a sum of 1, and one of 142 thousandths of 7, just below 143 of them.
+        calm("*s1 *0", "*0 *1");
+        spanIs(0, 0, 1, 1);
+        calm("*s1 *6", "*5 *5");
+        spanIs(0, 0, 1, 1);
+        // A count in the place of a share is bound by it no more.
+        calm("*s1000 *1500", "*50 *50");
+        spanIs(0, 0, 1000, 1002);
+        lay(0, 0, 0, "*1000");
+        spanIs(0, 0, 950, 1050);
         calm("*5 *9", "*s7 *s3");
         spanIs(0, 0, 5, 5);
         // 83 thousandths of 12 million, in numbers beyond what fits one int times 1000.
@@ -797,8 +808,33 @@ public final class TermsTest extends Bench {
         due("block", x.block(0, 2, 2), 1, 0);
         refused("plan", () -> x.plan(0), 10);
         keptIs("1 0 / 0 0 / 1 0");
+        yes("hand no more", x.hand(0, 0, 0, false) && x.hand(0, 2, 0, false));
+        due("nothing of it comes later", x.plan(0), 0, 0);
+        keptIs("0 0 / 0 0 / 0 0");
+        yes("hand", x.hand(0, 0, 0, true) && x.hand(0, 2, 0, true));
         yes("tear", x.tear(0, 2, 1));
         due("plan", x.plan(0), 3, 0);
+        largeAndSmall();
+    }
+
+    /** What a large table has is not looked at in a small one that comes after it. */
+    private static void largeAndSmall() {
+        x = new CellKeeper();
+        yes("open", x.open(0, 12, 12) && x.open(1, 2, 2) && x.rule(1, 0, 0));
+        for (int k = 0; k < 144; k++) yes("cell", x.cell(0, k / 12, k % 12, COUNT, 3));
+        yes("torn", x.tear(0, 5, 11));
+        for (int k = 0; k < 4; k++) yes("cell", x.cell(1, k / 2, k % 2, COUNT, 5));
+        yes("a zero", x.cell(1, 1, 1, ZERO, 0) && x.hand(1, 0, 0, true));
+        due("the large one", x.plan(0), 0, 0);
+        none("no third row or column", x.plan(1), 10);
+        due("the large one", x.fewest(0), 0, 0);
+        none("no third row or column", x.fewest(1), 10);
+        due("the large one", x.unsafe(0), 0, 0);
+        due("the small one", x.unsafe(1), 1, 0);
+        due("seven or eight in each row of the large one", x.round(0, 5) / 11, 7, 0);
+        due("the small one", x.round(1, 3), 2, 0);
+        roundedIs("3 6 / 6 0");
+        due("no more than it has", x.rounded(2, 0) + x.rounded(0, 2), -2);
     }
 
     private static void fewest() {
